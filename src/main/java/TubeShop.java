@@ -342,9 +342,11 @@ public final class TubeShop {
             int least = Integer.MAX_VALUE;
             int link = step * STEPS;
             int cost = rest * STEPS;
-            for (int next = 0; next < steps; next++) {
+            for (int next = 0; next < steps; next += 2) {
                 if ((rest >> (next >> 1) & 1) != 0) {
-                    least = Math.min(least, links[link + next] + costs[cost + next]);
+                    int forward = links[link + next] + costs[cost + next];
+                    int backward = links[link + next + 1] + costs[cost + next + 1];
+                    least = Math.min(least, Math.min(forward, backward));
                 }
             }
             return least;

@@ -178,6 +178,8 @@ public final class PromisesTest {
         due("4: straight on", round.run(3, 0), 0);
         TubeShop over = shopOf(5, 5, 6, 4, 6, 4, 7, 5);
         due("4: from 7 to 1 are 2", over.run(3, 0), 2);
+        TubeShop diamond = shopOf(0, 2, 2, 0, 2, 0, 4, 2, 4, 2, 2, 4, 2, 4, 1, 3);
+        due("4: over 0 either way", diamond.run(15, 0), 6);
     }
 
     private static void otherPricesOfBends() {
@@ -381,6 +383,11 @@ public final class PromisesTest {
         due("8: two of two", shop.split(), 2);
         due("8: the first pair", part(shop, 0, 0), 3);
         due("8: the second pair", part(shop, 1, 0), 12);
+        TubeShop square = shopOf(0, 0, 2, 0, 2, 0, 2, 2, 2, 2, 0, 2, 0, 2, 0, 0);
+        square.longest(40);
+        due("8: two corners of four", square.split(), 2);
+        due("8: stroke 0 with stroke 1, not 3", part(square, 0, 0), 3);
+        due("8: and the other corner", part(square, 1, 0), 12);
         shop.longest(10);
         due("8: four", shop.split(), 4);
         for (int k = 0; k < 4; k++) {
@@ -423,6 +430,7 @@ public final class PromisesTest {
         shop.price(6, 9);
         shop.longest(10);
         shop.stroke(5, 5, 6, 6);
+        due("9: the best run now is another one", shop.run(3, 1), 70);
         due("9: set", part(shop, 0, 0), 3);
         due("9: length", part(shop, 0, 1), 50);
         due("9: price", part(shop, 0, 2), 7);
@@ -503,6 +511,8 @@ public final class PromisesTest {
         empty.split();
         due("10: no runs, no boxes", empty.feed(1, 1), 0);
         due("10: no runs, but a wrong rate", empty.feed(-1, 1), -1);
+        due("10: no runs, but a wrong voltage", empty.feed(1, 0), -1);
+        due("10: no runs, but too much voltage", empty.feed(1, 100000), -1);
         TubeShop shop = apart(90, 90);
         due("10: two", shop.split(), 2);
         due("10: just enough", shop.feed(1, 140), 2);
