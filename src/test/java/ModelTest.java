@@ -1,38 +1,35 @@
 import java.util.ArrayList;
 import java.util.Arrays;
 import java.util.List;
-import java.util.NoSuchElementException;
 
 /**
  * Made-up rows of calls, answered by the shop and by a plain model that tries every run, every
  * split, every packing and every order of looks. The rows are the same each time.
  */
-public final class ModelTest {
+public final class ModelTest extends Due {
     /** The document promises nothing beyond so many calls on one object. */
     private static final int MOST_CALLS = 500;
-    private static final int INDEX = -1000001;
-    private static final int ELEMENT = -1000002;
 
-    private static int wrong = 0;
-    private static int calls = 0;
+    private static final int ROWS = 6000;
     private static long seed = 20261116L;
 
     public static void main(String[] args) {
-        for (int row = 0; row < 6000; row++) {
-            int most = row % 1000 == 999 ? 8 : row % 100 == 99 ? 7 : row % 10 == 9 ? 6 : 5;
+        for (int row = 0; row < ROWS; row++) {
+            int most = mostStrokes(row);
             int side = row % 3 == 0 ? 10 : 3 + row % 2;
-            int before = calls;
+            int before = compared();
             tryRow(row, most, side);
-            if (calls - before > MOST_CALLS) {
-                wrong++;
-                System.out.println("row " + row + " has " + (calls - before) + " calls");
-            }
+            due("row " + row + " is short enough", compared() - before <= MOST_CALLS, true);
         }
-        System.out.println(wrong == 0 ? calls + " calls are as the model's"
-            : wrong + " of " + calls + " calls are not as the model's");
-        if (wrong != 0) {
-            System.exit(1);
+        end();
+    }
+
+    /** Only the last row is full, since the model tries all that there is. */
+    private static int mostStrokes(int row) {
+        if (row % 1000 == 999) {
+            return row == ROWS - 1 ? 9 : 8;
         }
+        return row % 100 == 99 ? 7 : row % 10 == 9 ? 6 : 5;
     }
 
     /** Two signs, one behind the other, on one object; the first is changed in between. */
@@ -55,7 +52,7 @@ public final class ModelTest {
     }
 
     private static void addStrokes(int row, TubeShop shop, Model model, int most, int side) {
-        int wanted = most == 8 ? 8 : Math.min(most, model.strokes.size() + pick(6));
+        int wanted = most >= 8 ? most : Math.min(most, model.strokes.size() + pick(6));
         for (int tries = 0; tries < 30 && model.strokes.size() < wanted; tries++) {
             int x0 = pick(side);
             int y0 = pick(side);
@@ -70,7 +67,7 @@ public final class ModelTest {
         for (int asked = 0; asked < 6; asked++) {
             int k = pick(model.strokes.size() + 2) - 1;
             int what = pick(4) - 1;
-            due(row, "look", new int[] {k, what}, lookAt(shop, k, what), model.look(k, what));
+            due(row, "look", new int[] {k, what}, look(shop, k, what), model.look(k, what));
         }
     }
 
@@ -110,8 +107,8 @@ public final class ModelTest {
     private static void askParts(int row, TubeShop shop, Model model) {
         for (int k = -1; k <= model.parts.size(); k++) {
             int what = pick(5) - 1;
-            due(row, "part", new int[] {k, what}, partAt(shop, k, what), model.part(k, what));
-            due(row, "part", new int[] {k, 0}, partAt(shop, k, 0), model.part(k, 0));
+            due(row, "part", new int[] {k, what}, part(shop, k, what), model.part(k, what));
+            due(row, "part", new int[] {k, 0}, part(shop, k, 0), model.part(k, 0));
         }
         for (int what = -1; what <= 2; what++) {
             due(row, "dead", new int[] {what}, shop.dead(what), model.dead(what));
@@ -128,40 +125,13 @@ public final class ModelTest {
         due(row, "count", new int[] {5}, shop.count(5), -1);
     }
 
-    private static int lookAt(TubeShop shop, int stroke, int what) {
-        try {
-            return shop.look(stroke, what);
-        } catch (IndexOutOfBoundsException e) {
-            return INDEX;
-        } catch (NoSuchElementException e) {
-            return ELEMENT;
-        }
-    }
-
-    private static int partAt(TubeShop shop, int k, int what) {
-        try {
-            return shop.part(k, what);
-        } catch (IndexOutOfBoundsException e) {
-            return INDEX;
-        } catch (NoSuchElementException e) {
-            return ELEMENT;
-        }
-    }
-
     private static int pick(int below) {
         seed = seed * 6364136223846793005L + 1442695040888963407L;
         return (int) ((seed >>> 33) % below);
     }
 
     private static void due(int row, String call, int[] given, int got, int want) {
-        calls++;
-        if (got != want) {
-            wrong++;
-            if (wrong <= 40) {
-                System.out.println("row " + row + ": " + call + Arrays.toString(given)
-                    + " answered " + got + ", due is " + want);
-            }
-        }
+        due("row " + row + ": " + call + Arrays.toString(given), got, want);
     }
 
     /** Knows only the document's words: it tries all that there is. */
@@ -173,6 +143,8 @@ public final class ModelTest {
         List<int[]> parts = new ArrayList<>();
 
         private final Best[] known = new Best[512];
+        private final int[][] links = new int[18 * 18][];
+        private final int[] lengths = new int[9];
         private List<Integer> bestSplit;
         private int bestSplitPrice;
 
@@ -180,7 +152,12 @@ public final class ModelTest {
             strokes.clear();
             there = false;
             parts = new ArrayList<>();
+            forget();
+        }
+
+        private void forget() {
             Arrays.fill(known, null);
+            Arrays.fill(links, null);
         }
 
         int stroke(int x0, int y0, int x1, int y1) {
@@ -192,6 +169,7 @@ public final class ModelTest {
             if (strokes.size() == 9 || directionOf(x1 - x0, y1 - y0) < 0) {
                 return -1;
             }
+            lengths[strokes.size()] = walk(x0, y0, x1, y1);
             strokes.add(new int[] {x0, y0, x1, y1});
             return strokes.size() - 1;
         }
@@ -228,7 +206,7 @@ public final class ModelTest {
                 return INDEX;
             }
             int[] s = strokes.get(k);
-            return what == 0 ? walk(s[0], s[1], s[2], s[3])
+            return what == 0 ? lengths[k]
                 : what == 1 ? directionOf(s[2] - s[0], s[3] - s[1]) : ELEMENT;
         }
 
@@ -239,7 +217,7 @@ public final class ModelTest {
         private int lengthOf(int set) {
             int sum = 0;
             for (int k = 0; k < strokes.size(); k++) {
-                sum += (set & 1 << k) != 0 ? look(k, 0) : 0;
+                sum += (set & 1 << k) != 0 ? lengths[k] : 0;
             }
             return sum;
         }
@@ -249,7 +227,7 @@ public final class ModelTest {
                 return false;
             }
             prices[what] = n;
-            Arrays.fill(known, null);
+            forget();
             return true;
         }
 
@@ -298,26 +276,32 @@ public final class ModelTest {
 
         private int[] goOn(List<Integer> row, int step, int[] soFar) {
             int[] then = soFar.clone();
-            int[] s = way(step);
-            then[1] += walk(s[0], s[1], s[2], s[3]);
-            if (row.isEmpty()) {
-                return then;
-            }
-            int[] b = way(row.get(row.size() - 1));
-            if (b[2] == s[0] && b[3] == s[1]) {
-                int d = directionOf(b[2] - b[0], b[3] - b[1]);
-                int e = directionOf(s[2] - s[0], s[3] - s[1]);
-                int k = 0;
-                while ((d + k) % 8 != e && (e + k) % 8 != d) {
-                    k++;
+            then[1] += lengths[step / 2];
+            if (!row.isEmpty()) {
+                int before = row.get(row.size() - 1);
+                int at = 18 * before + step;
+                if (links[at] == null) {
+                    links[at] = link(way(before), way(step));
                 }
-                then[0] += prices[k];
-            } else {
-                then[0] += prices[5];
-                then[1] += walk(b[2], b[3], s[0], s[1]);
-                then[2]++;
+                for (int k = 0; k < 3; k++) {
+                    then[k] += links[at][k];
+                }
             }
             return then;
+        }
+
+        /** What lies between two steps: pay, length, jumps. */
+        private int[] link(int[] b, int[] s) {
+            if (b[2] != s[0] || b[3] != s[1]) {
+                return new int[] {prices[5], walk(b[2], b[3], s[0], s[1]), 1};
+            }
+            int d = directionOf(b[2] - b[0], b[3] - b[1]);
+            int e = directionOf(s[2] - s[0], s[3] - s[1]);
+            int k = 0;
+            while ((d + k) % 8 != e && (e + k) % 8 != d) {
+                k++;
+            }
+            return new int[] {prices[k], 0, 0};
         }
 
         private int[] way(int step) {
@@ -446,7 +430,8 @@ public final class ModelTest {
             }
             int least = Integer.MAX_VALUE;
             for (int joint = from; joint < to; joint++) {
-                least = Math.min(least, looks(from, joint, made + 1) + looks(joint + 1, to, made + 1));
+                int both = looks(from, joint, made + 1) + looks(joint + 1, to, made + 1);
+                least = Math.min(least, both);
             }
             return least;
         }

@@ -1,16 +1,5 @@
-import java.util.NoSuchElementException;
-
 /** Each promise by hand: ordinary inputs, the edges that the document names, wrong inputs. */
-public final class PromisesTest {
-    private static final int INDEX = -1000001;
-    private static final int ELEMENT = -1000002;
-    private static final int[] FAR = {
-        Integer.MIN_VALUE, Integer.MIN_VALUE + 1, -65536, -2, -1, 10, 32, 512, 1 << 16, 1 << 30,
-        Integer.MAX_VALUE - 1, Integer.MAX_VALUE,
-    };
-
-    private static int wrong = 0;
-
+public final class PromisesTest extends Due {
     public static void main(String[] args) {
         newObject();
         anew();
@@ -46,10 +35,7 @@ public final class PromisesTest {
         lookThatIsNot();
         counts();
         nothingElseIsThrown();
-        System.out.println(wrong == 0 ? "all promises are as due" : wrong + " answers are not as due");
-        if (wrong != 0) {
-            System.exit(1);
-        }
+        end();
     }
 
     // promise 1
@@ -694,49 +680,5 @@ public final class PromisesTest {
             }
         }
         due("nothing changed", shop.count(0), before);
-    }
-
-    private static TubeShop shopOf(int... points) {
-        TubeShop shop = new TubeShop();
-        for (int k = 0; k + 3 < points.length; k += 4) {
-            int number = shop.stroke(points[k], points[k + 1], points[k + 2], points[k + 3]);
-            due("3: number", number, k / 4);
-        }
-        return shop;
-    }
-
-    private static void dueSteps(String what, TubeShop shop, int set, int... steps) {
-        for (int k = 0; k < steps.length; k++) {
-            due(what + ", step " + k, shop.step(set, k), steps[k]);
-        }
-        due(what + ", behind the last", shop.step(set, steps.length), -1);
-    }
-
-    private static int part(TubeShop shop, int k, int what) {
-        try {
-            return shop.part(k, what);
-        } catch (IndexOutOfBoundsException e) {
-            // the machine's own exceptions are classes below the document's one
-            return e.getClass() == IndexOutOfBoundsException.class ? INDEX : INDEX - 10;
-        } catch (NoSuchElementException e) {
-            return ELEMENT;
-        }
-    }
-
-    private static int look(TubeShop shop, int stroke, int what) {
-        try {
-            return shop.look(stroke, what);
-        } catch (IndexOutOfBoundsException e) {
-            return e.getClass() == IndexOutOfBoundsException.class ? INDEX : INDEX - 10;
-        } catch (NoSuchElementException e) {
-            return ELEMENT;
-        }
-    }
-
-    private static void due(String what, int got, int want) {
-        if (got != want) {
-            wrong++;
-            System.out.println(what + ": answered " + got + ", due is " + want);
-        }
     }
 }
